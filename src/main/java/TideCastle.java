@@ -553,7 +553,7 @@ public final class TideCastle {
         return (int) (x * 1103515245L + 12345L & 2147483647L);
     }
 
-    /** The least of the smallest sets of cells, as bits, that keep the WAVE from the cell; or NONE. */
+    /** The least of the smallest sets of cells that keep the WAVE off, as bits; or NONE. */
     private int leastWall(int kept, int force) {
         if (strengthToCome(kept) < 1) {
             return 0;
@@ -599,7 +599,7 @@ public final class TideCastle {
         return carried | (carried ^ set) >>> 2 + Integer.numberOfTrailingZeros(set);
     }
 
-    /** How many RULES (and none) are as the LOGS tell; their HEIGHTS ahead of the n-th WAVE are counted. */
+    /** Counts HEIGHTS ahead of the n-th WAVE by the RULES that are so: how many these are. */
     private int gatherHeights(int n) {
         for (int i = 0; i < alike.length; i++) {
             alike[i] = 0;
@@ -633,7 +633,7 @@ public final class TideCastle {
         return most;
     }
 
-    /** A BEACH as its text tells it; it never changes once it is read. One of no cells is no BEACH. */
+    /** A BEACH as told; it never changes once it is read. One of no cells is no BEACH. */
     private static final class Shore {
         int columns = 0;
         int rows = 0;
@@ -750,7 +750,7 @@ public final class TideCastle {
         }
     }
 
-    /** How all was ahead of each of the last ACTS; rows are made when first needed and used again. */
+    /** How all was ahead of the last ACTS; rows are made when first needed and used again. */
     private static final class Past {
         final Sand[] rows = new Sand[MOST_UNDONE];
         int size = 0;
@@ -1053,7 +1053,7 @@ public final class TideCastle {
         }
     }
 
-    /** A RULE, as steps for a stack: each CLAUSE its SUM, then its TEST, values ahead of what joins them. */
+    /** A RULE as steps for a stack: the SUM of a CLAUSE, its TEST, signs behind values. */
     private static final class Law {
         static final String WORDS = "cell height strength wet force wave flags low high ";
         static final int CELL = 0;
@@ -1087,7 +1087,7 @@ public final class TideCastle {
         static final int NOT = -22;
 
         private final int[] steps;
-        // Of each CLAUSE where its SUM and where its TEST begins; behind all where the last one ends.
+        // Where the SUM and where the TEST of each CLAUSE begins; behind these where the last ends.
         private final int[] starts;
         private final int asked;
 
@@ -1235,7 +1235,7 @@ public final class TideCastle {
             }
         }
 
-        /** Two SPADES that share no cell leave the same sand in either order: the first order is enough. */
+        /** Two SPADES that share no cell leave the same sand in either order: one is enough. */
         private static boolean meets(int a, int over, int b, int to) {
             int from = b / SIDES;
             return from == a / SIDES || from == over || to == a / SIDES || to == over;
@@ -1268,7 +1268,7 @@ public final class TideCastle {
             }
         }
 
-        /** MARKS by the rival's best SPADE; some number up to the floor, if they are not above that. */
+        /** MARKS by the rival's best SPADE; any number up to the floor, if not above it. */
         private int leastByReply(int floor) {
             int least = marksAhead(floor, NO_ROOF);
             for (int i = NONE; i < SIDES * shore.cells && least > floor; i++) {
@@ -1306,7 +1306,7 @@ public final class TideCastle {
             }
         }
 
-        /** MARKS after the WAVES; once they can't come above the floor or below the roof, some such number. */
+        /** MARKS after the WAVES; if not above the floor, or not below the roof, any such. */
         private int marksAhead(int floor, int roof) {
             probe.copyFrom(trial);
             for (int i = 0; i < waves; i++) {
@@ -1377,7 +1377,7 @@ public final class TideCastle {
             return true;
         }
 
-        /** Which of some words, each with a blank behind it, stands next: it goes behind it; or NONE. */
+        /** Goes behind the word that stands next, if it is in a list, each with a blank behind. */
         final int readWord(String words) {
             skipBlanks();
             int behind = place;
@@ -1763,7 +1763,7 @@ public final class TideCastle {
             return Law.SAME;
         }
 
-        /** Goes on behind a FACT, out of brackets that end there: whether another FACT is to follow. */
+        /** Goes on behind a FACT, out of brackets that end there: whether another FACT follows. */
         private boolean closeFacts() {
             for (int i = 0; i <= MOST_DEEP && fault == 0; i++) {
                 endFact();
