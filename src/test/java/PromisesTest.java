@@ -459,6 +459,12 @@ public final class PromisesTest {
         TideCastle ring = Check.on("beach 3 2;row 000;row 090;wave 9");
         // Cell 1 by 0 or by 2, as strong: 3, 0, 1.
         due("15: to 1 by 3 and 0", ring.way(1, 0) * 100 + ring.way(1, 1) * 10 + ring.way(1, 2), 301);
+        // Round a wall and down again: 6, 3, 0, 1, 2, 5.
+        TideCastle round = Check.on("beach 3 3;row 000;row 090;row 099;wave 12");
+        int[] down = {6, 3, 0, 1, 2, 5, -2};
+        for (int k = 0; k < down.length; k++) {
+            due("15: round a wall, " + k, round.way(5, k), down[k]);
+        }
         TideCastle sea = Check.on("beach 2 2;row 99;row 02;wave 9");
         // Cell 3 by the sea: 9 - 1 - 2 = 6; by cell 2: 8 - 1 - 2 = 5.
         due("15: to 3 by the sea", sea.way(3, 0), 3);
@@ -671,6 +677,8 @@ public final class PromisesTest {
         due("24: by none", Check.on("beach 2 2;row 02;flag 0 20 1").borne(0), -1);
         due("24: by all",
                 Check.on("beach 2 5;row 99;row 00;row 99;row 00;row 99;flag 0 20 1").borne(0), 40);
+        // 20 are lost on the way to cell 0: by 9 up to 4, down to 2, by 8 up to 0, and 3 cells.
+        due("24: by 39", Check.on("beach 2 3;row 80;row 09;row 90;flag 0 20 1").borne(0), 39);
         due("24: by 30", Check.on("beach 2 2;row 99;row 99;flag 0 20 1").borne(0), 30);
         // By FORCE 20 alone all sand goes; by more none does, which does not count.
         String beach = "beach 2 2;row 33;row 33;flag 0 20 1";
