@@ -46,6 +46,7 @@ public final class FaultsTest {
         beach("\tbeach 2 2", 0, 0);
         beach("\u0000", 0, 0);
         beach("beach x", 6, 0);
+        beach("beachz 2 2", 0, 0);
         beach("beach 2,2", 7, 0);
         beach("beach -2 2", 6, 0);
         beach("beach 2 2 2", 10, 0);
@@ -124,6 +125,8 @@ public final class FaultsTest {
     private static void rulesOfWrongBytes() {
         rule("takes 1", 0, 0);
         rule("1", 0, 0);
+        rule("takez 1", 0, 0);
+        rule("take cellz", 5, 0);
         rule("take 1 1", 7, 0);
         rule("take -1", 5, 0);
         rule("take (1)", 5, 0);

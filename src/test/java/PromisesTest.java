@@ -541,6 +541,12 @@ public final class PromisesTest {
         due("18: none", calm.dig(2, 6, 1), 0);
         due("18: no first", calm.dig(2, 6, 2), -2);
         due("18: no second", calm.dig(2, 6, 3), -2);
+        // From 3 by 1 to 0: the second SPADE has its sand from the first, and could not come first.
+        TideCastle far = Check.on("beach 2 2;row 10;row 05;flag 0 9 10;wave 9");
+        due("18: one does not help", far.dig(1, 1, 0), 0);
+        due("18: one behind the other", far.dig(2, 1, 0), 10);
+        due("18: from 3 up", far.dig(2, 1, 2), 12);
+        due("18: from 1 to the left", far.dig(2, 1, 3), 7);
         due("18: no flags", Check.on("beach 2 2").dig(2, 6, 0), 0);
     }
 
