@@ -223,6 +223,19 @@ final class AskSentences {
         TideCastle far = Check.on("beach 2 2;row 10;row 05;flag 0 9 10;wave 9");
         dug(far, 1, 1, 0, 0, -2, -2);
         dug(far, 2, 1, 10, 2, 12, 7);
+        // The flag's cell loses 1 in each WAVE; each spadeful more lets it stand a WAVE longer.
+        TideCastle sinking = Check.on("beach 2 2;row 42;row 22;flag 0 20 10;wave 20", "take 1 if cell=0");
+        dug(sinking, 1, 3, 30, 0, -2, -2);
+        dug(sinking, 1, 6, 40, 1, 7, -2);
+        dug(sinking, 2, 6, 50, 2, 7, 7);
+        // Beside the sea, by what is beside it alone.
+        TideCastle last = Check.on("beach 2 2;row 00;row 15;flag 2 20 10;wave 20", "take 1 if cell=2");
+        dug(last, 2, 6, 20, 2, 15, 15);
+        // Cell 4 is full, so that the second SPADE, from 1 down to it, could not be the first.
+        TideCastle full = Check.on("beach 3 3;row 252;row 090;row 010;flag 7 20 10;wave 20",
+                "take 3 if cell=7 and [height<2 or high<9]");
+        dug(full, 1, 1, 0, 0, -2, -2);
+        dug(full, 2, 1, 10, 2, 18, 6);
         low.spade(1, 3);
         low.wave();
         // Cell 1 has no more; MARKS are all there are by then.
@@ -298,6 +311,11 @@ final class AskSentences {
         rivals(thin, 6, 60, 7);
         thin.wave();
         rivals(thin, 6, 70, 7);
+        // 4 of sand, 1 more by the one, 1 less by the other, and 1 less in each WAVE.
+        TideCastle sinking = Check.on("beach 2 2;row 42;row 22;flag 0 20 10;wave 20", "take 1 if cell=0");
+        rivals(sinking, 6, 30, 7);
+        // The rival would take from the last cell.
+        rivals(Check.on("beach 2 2;row 22;row 21;flag 3 9 10;wave 0"), 4, 40, 6);
         // No SPADE of either.
         rivals(Check.on(PLATEAU), 6, 30, -1);
         // All beside the flag's cell is full: the rival has none that harms.
@@ -307,6 +325,9 @@ final class AskSentences {
         rivals(Check.on("beach 2 2;row 22;row 22;flag 0 9 10;wave 9"), 1, 10, 7);
 
         s.of(19, "the first SPADE (none ahead of all)");
+        TideCastle asked = Check.on("beach 2 2;row 12;row 22;flag 0 9 10;wave 9");
+        s.due("by dig it is 7", asked.dig(1, 1, 2), 7);
+        s.due("here it is none", asked.rival(1, 1), -1);
         rivals(Check.on("beach 2 2;flag 0 9 3;wave 0"), 6, 18, -1);
         rivals(Check.on("beach 2 2"), 6, 0, -1);
         // From 1 to the left or from 2 up: both help.
@@ -353,6 +374,8 @@ final class AskSentences {
         walls("beach 3 3;row 000;row 000;row 000;flag 4 20 5;wave 9", 3, 8 | 32 | 128);
         String flat = "beach 5 5" + ";row 00000".repeat(5) + ";flag 12 20 5;wave ";
         walls(flat + 10, -2, -2);
+        // Its four sides would do, but are more than 3.
+        walls("beach 4 3;row 0000;row 0000;row 0000;flag 5 20 5;wave 10", -2, -2);
         // Three of its four sides, while the long way to the fourth is too long.
         walls(flat + 7, 3, 1 << 11 | 1 << 13 | 1 << 17);
         TideCastle turns = Check.on("beach 2 2;row 19;row 19;flag 0 20 5;wave 3;wave 4");
@@ -362,6 +385,8 @@ final class AskSentences {
 
         s.of(20, "of several sets the least (of which the greatest cell is least, then the next one)");
         walls("beach 2 3;row 00;row 00;row 00;flag 0 9 1;wave 5", 2, 2 | 4);
+        // Cell 0 or cell 2 alone would do.
+        walls("beach 2 2;row 00;row 09;flag 1 20 5;wave 5", 1, 1);
         // Each of 2, 4, 6, 8 alone would do.
         walls("beach 2 5;row 09;row 09;row 09;row 09;row 09;flag 0 20 5;wave 9", 1, 4);
         // 5, 6 and 7 would do as well, but 6 is behind 3.
@@ -498,6 +523,10 @@ final class AskSentences {
         given("beach 2 2;row 22;row 22;flag 0 9 10;flag 0 9 1;wave 9", 1, -1, 11);
         given("beach 2 2;row 22;row 22;flag 0 9 10;flag 0 9 1;wave 9", 2, 1, 20);
         given("beach 2 2;flag 0 9 4;wave 0", 60, -1, 240);
+        TideCastle sinking = Check.on("beach 2 2;row 42;row 22;flag 0 20 10;flag 0 20 1;wave 20",
+                "take 1 if cell=0");
+        s.due("33 or 40", sinking.giveUp(6, 0) * 100 + sinking.giveUp(6, 1), 140);
+        s.due("33 or 30", sinking.giveUp(3, 0) * 100 + sinking.giveUp(3, 1), -67);
         // 9 at most: nothing is won.
         given("beach 2 2;row 99;row 99;flag 0 9 10;flag 0 20 1;wave 20", 1, -1, 1);
         TideCastle x = Check.on("beach 2 2;flag 0 9 4;wave 0");
@@ -505,6 +534,9 @@ final class AskSentences {
         s.due("with those got", x.giveUp(60, 1), 244);
 
         s.of(23, "of several none, then the least");
+        TideCastle asked = Check.on("beach 2 2;row 12;row 22;flag 0 9 10;wave 9");
+        s.due("by dig it is 7", asked.dig(1, 1, 2), 7);
+        s.due("here it is none", asked.giveUp(1, 0), -1);
         given("beach 2 2;row 12;row 22;flag 0 9 4;flag 0 9 4;wave 9", 1, 0, 4);
         given("beach 2 2;row 12;row 22;flag 3 1 1;flag 0 9 4;flag 0 9 4;flag 0 9 4;wave 9", 1, 1, 8);
         // The flag falls, or is given up: 0 all the same.

@@ -232,6 +232,8 @@ final class BeachSentences {
         s.due("without, below", without.odds(0, 1), 1);
         s.due("without, tides", without.tides(10, 60, 1), 0);
         s.due("without, it falls by 6", swelling(6, "").tides(10, 60, 1), 10);
+        s.due("at once", swelling(6, "").tides(10, 1, 1), 10);
+        s.due("for sure", swelling(6, "").odds(0, 0) * 10 + swelling(6, "").odds(0, 1), 11);
     }
 
     private void cells() {
@@ -273,6 +275,16 @@ final class BeachSentences {
         bad("   ", 3, 0);
         bad("BEACH 2 2", 0, 0);
         bad("beachx 2 2", 0, 0);
+        bad("beacha 2 2", 0, 0);
+        bad("beachz 2 2", 0, 0);
+        // Neither byte beside the small letters is one, nor beside the digits.
+        bad("beach` 2 2", 5, 0);
+        bad("beach{ 2 2", 5, 0);
+        bad("beach 2/ 2", 7, 0);
+        bad("beach 2: 2", 7, 0);
+        bad("beach 2 2;row 1/", 15, 0);
+        bad("beach 2 2;row 1:", 15, 0);
+        bad("beach 2 2;row :1", 14, 0);
         bad("beac 2 2", 0, 0);
         bad("take 1", 0, 0);
         bad("beach", 5, 0);

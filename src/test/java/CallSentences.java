@@ -128,6 +128,19 @@ final class CallSentences {
         s.due("no swell", x.odds(0, 1), 1);
         s.due("no waves", x.forceOf(1), 5);
         s.due("the same once more", Check.beach(x, "beach 2 5;row 31;flag 1 2 3"), 10);
+        s.due("its first row", x.cell(0, 0) * 10 + x.cell(1, 0), 31);
+        String full = "beach 5 5" + ";row 98765".repeat(5) + ";flag 24 1 1".repeat(6) + ";wave 1".repeat(12)
+                + ";swell 1 2 3";
+        for (int i = 0; i < 3; i++) {
+            s.due("a full one", Check.beach(x, full), 25);
+            s.due("all heights", x.count(9), 175);
+            s.due("flags and waves", x.count(2) * 100 + x.count(3), 612);
+            s.due("a small one", Check.beach(x, "beach 2 2;row 11;row 11;swell 0 1 0"), 4);
+            s.due("all heights", x.count(9), 4);
+            s.due("flags and waves", x.count(2) * 100 + x.count(3), 0);
+            s.due("one of no rows", Check.beach(x, "beach 2 2"), 4);
+            s.due("all heights", x.count(9), 8);
+        }
     }
 
     private void beachRefused() {
@@ -189,6 +202,21 @@ final class CallSentences {
         s.due("the next number", Check.rule(x, "take 1"), 1);
         s.due("the rule in force", x.ahead(0, 1, 0), 7);
         s.due("without a beach", Check.rule(new TideCastle(), "take 1"), 0);
+
+        // A FAULT in the midst of brackets, a sum or a test leaves nothing behind.
+        s.of(5, "The TAPE, which is empty then, is a RULE: its number; -2 - its FAULT");
+        TideCastle y = Check.on(CLIFF);
+        String deep = "take 3 if cell=9;take 2 if " + "[".repeat(10) + "1=1" + "]".repeat(10);
+        for (int i = 0; i < 3; i++) {
+            s.due("a fault in brackets", Check.rule(y, "take 1 if 1=1 or 1=2 and [[not [1=1"),
+                    Check.fault(35, 0));
+            s.due("10 deep", Check.rule(y, deep), 2 * i);
+            s.due("60 values", Check.rule(y, "take 60" + "-1".repeat(59)), 2 * i + 1);
+            y.force(2 * i);
+            s.due("by the one", y.ahead(0, 1, 0), 7);
+            y.force(2 * i + 1);
+            s.due("by the other", y.ahead(0, 1, 0), 8);
+        }
     }
 
     private void force() {
@@ -339,6 +367,11 @@ final class CallSentences {
         s.due("ahead of wave 60", x.ruled(0), 2);
         x.log(60, 3, 8);
         s.due("another cell", x.ruled(0), 0);
+        TideCastle ten = Check.on(CLIFF);
+        for (int n = 0; n < 10; n++) {
+            ten.log(n, 3, 9 - n);
+        }
+        s.due("ten", ten.ruled(0), 1);
         TideCastle late = Check.on(CLIFF);
         Check.rule(late, "take 1 if wave=59");
         Check.rule(late, "take 1 if wave=60");
@@ -407,7 +440,16 @@ final class CallSentences {
         looks(y, 1, 3, 1);
         y.log(1, 3, 9);
         looks(y, 1, 0, 1);
-        looks(Check.on(CLIFF), 60, 0, 1);
+        TideCastle alone = Check.on(CLIFF);
+        looks(alone, 60, 0, 1);
+        looks(alone, 60, 0, 1);
+        TideCastle late = Check.on(CLIFF);
+        Check.rule(late, "take 1 if wave=0 and cell=2");
+        Check.rule(late, "take 1 if wave=0 and cell=2 or wave=1 and cell=3");
+        late.log(1, 0, 9);
+        // They part in WAVE 1 only, whichever WAVE the LOGS are of.
+        looks(late, 1, 0, 2);
+        looks(late, 2, 3, 1);
 
         s.of(27, "LOOK ahead of the n-th WAVE (0 to 60) what 0: the cell, 1: how many; -2: no RULE is so. NONE "
                 + "without these, or a BEACH.");
@@ -484,6 +526,8 @@ final class CallSentences {
                 + "least), below both first ones as told, else 1 more");
         for (int seed = 0; seed < 12; seed++) {
             for (int[] o : odds) {
+                drawn(seed, 4, o, 10, 2);
+                drawn(seed, 7, o, 10, 2);
                 drawn(seed, 5, o, 10, 1);
                 drawn(seed, 6, o, 10, 2);
             }
@@ -596,8 +640,10 @@ final class CallSentences {
         x.give(1);
         x.seed(8);
         x.log(-1, 0, 0);
+        x.log(3, 3, 3);
         x.force(-1);
         Check.beach(x, "beach 5 5;wave 9");
+        x.log(4, 24, 4);
         x.wave();
         s.due("back", x.back(2), 1);
         s.same("back", Sentences.seen(x), seen);

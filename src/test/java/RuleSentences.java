@@ -118,6 +118,14 @@ final class RuleSentences {
             holds(a + "=5", a == 5);
             holds(a + ">=5", a >= 5);
             holds(a + ">5", a > 5);
+            for (String sign : new String[] {"<", "<=", "=", ">=", ">"}) {
+                boolean so = sign.equals("<") ? a < 5 : sign.equals("<=") ? a <= 5
+                        : sign.equals("=") ? a == 5 : sign.equals(">=") ? a >= 5 : a > 5;
+                holds("not " + a + sign + "5", !so);
+                holds(a + sign + "5 and 1=1", so);
+                holds("1=1 and " + a + sign + "5", so);
+                holds("not [" + a + sign + "5 or 1=2]", !so);
+            }
         }
         bad("take 1 if 1==1", 12, 0);
         bad("take 1 if 1=<1", 12, 0);
@@ -144,6 +152,9 @@ final class RuleSentences {
         bad("take 1+000001", 7, 1);
         bad("take 1 2", 7, 0);
         bad("take 12 3", 8, 0);
+        bad("take 1:", 6, 0);
+        bad("take :1", 5, 0);
+        bad("take /1", 5, 0);
     }
 
     private void wordsAsWritten() {
@@ -153,6 +164,10 @@ final class RuleSentences {
             good("take 1 if " + word + "=" + word);
             good("take 2*" + word + " if 1=1");
             bad("take " + word + "x", 5, 0);
+            bad("take " + word + "a", 5, 0);
+            bad("take " + word + "z", 5, 0);
+            bad("take " + word + "`", 5 + word.length(), 0);
+            bad("take " + word + "{", 5 + word.length(), 0);
             bad("take " + word.substring(0, word.length() - 1), 5, 0);
             bad("take " + word.substring(1), 5, 0);
             bad("take " + word + word, 5, 0);
