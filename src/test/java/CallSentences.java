@@ -624,7 +624,8 @@ final class CallSentences {
         TideCastle x = Check.on(BAY, "take 1");
         x.wave();
         x.seed(7);
-        x.log(1, 2, 5);
+        x.log(1, 4, 0);
+        x.log(0, 4, 1);
         x.spade(0, 1);
         return x;
     }
@@ -635,7 +636,6 @@ final class CallSentences {
         TideCastle x = busy();
         x.image(2);
         String seen = Sentences.seen(x);
-        int ruled = x.ruled(0);
         x.wave();
         x.give(1);
         x.seed(8);
@@ -643,11 +643,14 @@ final class CallSentences {
         x.log(3, 3, 3);
         x.force(-1);
         Check.beach(x, "beach 5 5;wave 9");
-        x.log(4, 24, 4);
+        // In place of the two LOGS of the image.
+        x.log(0, 24, 4);
+        x.log(0, 3, 9);
+        x.log(0, 0, 0);
         x.wave();
         s.due("back", x.back(2), 1);
         s.same("back", Sentences.seen(x), seen);
-        s.due("its log", x.ruled(0), ruled);
+        s.due("its logs", x.ruled(0), 2);
         s.due("its waves and swell", x.forceOf(1) * 100 + x.odds(1, 1), 301);
         s.due("undo", x.undo(), 1);
         s.due("undo", x.undo(), 0);
